@@ -1,0 +1,50 @@
+/** Counts the answers of one test that are not as due, and ends the test. */
+final class Check {
+    private int asked = 0;
+    private int wrong = 0;
+
+    void due(String call, long got, long want) {
+        asked++;
+        if (got != want) {
+            wrong++;
+            System.out.println(call + " answered " + got + ", due is " + want);
+        }
+    }
+
+    boolean isClean() {
+        return wrong == 0;
+    }
+
+    void end() {
+        System.out.println(asked + " answers, " + wrong + " not as due");
+        if (wrong != 0 || asked == 0) {
+            System.exit(1);
+        }
+    }
+
+    /** Puts a new row of ints on a sheet. */
+    static void fill(ServerLine x, int sheet, int... items) {
+        x.sheet(sheet, 2, items.length);
+        for (int i = 0; i < items.length; i++) {
+            x.put(sheet, 2, i, items[i]);
+        }
+    }
+
+    /** A line with a point at each place and the servers at these points. */
+    static ServerLine line(int[] places, int... starts) {
+        ServerLine x = new ServerLine();
+        x.points(places.length);
+        for (int i = 0; i < places.length; i++) {
+            x.place(i, places[i]);
+        }
+        x.servers(starts.length);
+        for (int i = 0; i < starts.length; i++) {
+            x.start(i, starts[i]);
+        }
+        return x;
+    }
+
+    static int[] row(int... numbers) {
+        return numbers;
+    }
+}
