@@ -8,6 +8,7 @@ public final class ServerLine {
     private static final int MOST_POINTS = 6;
     private static final int MOST_SERVERS = 3;
     private static final int MOST_STANDINGS = 216;
+    private static final int MOST_CROWDS = 56;
     private static final int MOST_PLACE = 1000;
     private static final int MOST_FACTOR = 9;
     private static final int MOST_SHEETS = 4;
@@ -394,19 +395,22 @@ public final class ServerLine {
 
     /**
      * The points, the servers and their ways. A standing is one number, a digit by six for each
-     * server, so that tables over standings need no objects; servers that are not there have 0.
+     * server, so that it needs no object; servers that are not there have 0. Standings that differ
+     * only in who stands where are one crowd: tables are by crowd, as least sums are alike for them.
      */
     private static final class Line {
         int pointCount = 1;
         int serverCount = 1;
         int guardFactor = 2;
-        int standingCount;
+        int crowdCount;
         final int[] places = new int[MOST_POINTS];
         final int[] starts = new int[MOST_SERVERS];
-        final int[] standings = new int[MOST_STANDINGS];
+        final int[] crowds = new int[MOST_STANDINGS];
+        final int[] crowdStandings = new int[MOST_CROWDS];
 
         Line() {
-            listStandings();
+            numberCrowds();
+            listCrowds();
         }
 
         void resizePoints(int n) {
@@ -420,7 +424,7 @@ public final class ServerLine {
                     starts[server] = 0;
                 }
             }
-            listStandings();
+            listCrowds();
         }
 
         void resizeServers(int k) {
@@ -428,30 +432,50 @@ public final class ServerLine {
             for (int server = k; server < MOST_SERVERS; server++) {
                 starts[server] = 0;
             }
-            listStandings();
+            listCrowds();
         }
 
-        private void listStandings() {
+        private void numberCrowds() {
+            int crowd = 0;
+            for (int c = 0; c < MOST_POINTS; c++) {
+                for (int b = c; b < MOST_POINTS; b++) {
+                    for (int a = b; a < MOST_POINTS; a++) {
+                        crowds[coded(a, b, c)] = crowd;
+                        crowds[coded(a, c, b)] = crowd;
+                        crowds[coded(b, a, c)] = crowd;
+                        crowds[coded(b, c, a)] = crowd;
+                        crowds[coded(c, a, b)] = crowd;
+                        crowds[coded(c, b, a)] = crowd;
+                        crowd++;
+                    }
+                }
+            }
+        }
+
+        /** One standing for each crowd that the points and servers of now can make. */
+        private void listCrowds() {
             int next = 0;
             for (int c = 0; c < choicesOf(2); c++) {
-                for (int b = 0; b < choicesOf(1); b++) {
-                    for (int a = 0; a < choicesOf(0); a++) {
-                        standings[next] = standingOf(a, b, c);
+                for (int b = c; b < choicesOf(1); b++) {
+                    for (int a = b; a < choicesOf(0); a++) {
+                        crowdStandings[next] = coded(a, b, c);
                         next++;
                     }
                 }
             }
-            standingCount = next;
+            crowdCount = next;
         }
 
         private int choicesOf(int server) {
             return server < serverCount ? pointCount : 1;
         }
 
+        private static int coded(int a, int b, int c) {
+            return a + 6 * b + 36 * c;
+        }
+
         int standingOf(int a, int b, int c) {
-            int second = serverCount > 1 ? b : 0;
-            int third = serverCount > 2 ? c : 0;
-            return a + 6 * second + 36 * third;
+            return coded(a, serverCount > 1 ? b : 0, serverCount > 2 ? c : 0);
         }
 
         int startStanding() {
@@ -726,8 +750,8 @@ public final class ServerLine {
         final int[] late;
         int lateCount;
         int standing;
-        int[] settled = new int[MOST_STANDINGS];
-        int[] spare = new int[MOST_STANDINGS];
+        int[] settled = new int[MOST_CROWDS];
+        int[] spare = new int[MOST_CROWDS];
         final int[] aim = new int[MOST_SERVERS];
 
         Work(Line line, int mostLate) {
@@ -737,12 +761,12 @@ public final class ServerLine {
 
         void begin() {
             standAtStart();
-            for (int i = 0; i < line.standingCount; i++) {
-                int goal = line.standings[i];
+            for (int i = 0; i < line.crowdCount; i++) {
+                int goal = line.crowdStandings[i];
                 for (int server = 0; server < line.serverCount; server++) {
                     aim[server] = line.places[Line.pointOf(goal, server)];
                 }
-                settled[goal] = line.leastWays(at, aim);
+                settled[line.crowds[goal]] = line.leastWays(at, aim);
             }
         }
 
@@ -759,7 +783,7 @@ public final class ServerLine {
 
         private int worthBehind(int goal, int count) {
             if (count <= 0) {
-                return settled[goal];
+                return settled[line.crowds[goal]];
             }
             int point = late[count - 1];
             int least = MOST_INT;
@@ -771,9 +795,9 @@ public final class ServerLine {
         }
 
         private void settle() {
-            for (int i = 0; i < line.standingCount; i++) {
-                int goal = line.standings[i];
-                spare[goal] = worthBehind(goal, lateCount);
+            for (int i = 0; i < line.crowdCount; i++) {
+                int goal = line.crowdStandings[i];
+                spare[line.crowds[goal]] = worthBehind(goal, lateCount);
             }
             int[] old = settled;
             settled = spare;
@@ -855,9 +879,9 @@ public final class ServerLine {
 
     /** A best way: planned from the last point back, then walked from the first. */
     private static final class Ahead extends Rule {
-        final byte[][] picks = new byte[MOST_ITEMS][MOST_STANDINGS];
-        int[] toGo = new int[MOST_STANDINGS];
-        int[] spare = new int[MOST_STANDINGS];
+        /** The least that is still to go, behind the first t, for each crowd. */
+        final int[][] toGo = new int[MOST_ITEMS + 1][MOST_CROWDS];
+        int leastSum;
         int standing;
         int step;
 
@@ -866,36 +890,36 @@ public final class ServerLine {
         }
 
         int plan(Row row) {
-            for (int i = 0; i < line.standingCount; i++) {
-                toGo[line.standings[i]] = 0;
+            for (int crowd = 0; crowd < MOST_CROWDS; crowd++) {
+                toGo[row.length][crowd] = 0;
             }
             for (int t = row.length - 1; t >= 0; t--) {
                 planStep(t, row.points[t]);
             }
-            return toGo[line.startStanding()];
+            return toGo[0][line.crowds[line.startStanding()]];
         }
 
         private void planStep(int t, int point) {
-            for (int i = 0; i < line.standingCount; i++) {
-                planFrom(t, line.standings[i], point);
+            for (int i = 0; i < line.crowdCount; i++) {
+                int from = line.crowdStandings[i];
+                chosen(t, from, point);
+                toGo[t][line.crowds[from]] = leastSum;
             }
-            int[] old = toGo;
-            toGo = spare;
-            spare = old;
         }
 
-        // Of like servers the least is picked, so the row walked from the first point is the least.
-        private void planFrom(int t, int from, int point) {
-            int least = MOST_INT;
+        // Of like servers the least is chosen, so the row walked from the first point is the least.
+        private int chosen(int t, int from, int point) {
+            int chosen = 0;
+            leastSum = MOST_INT;
             for (int server = 0; server < line.serverCount; server++) {
-                int behind = toGo[Line.moved(from, server, point)];
+                int behind = toGo[t + 1][line.crowds[Line.moved(from, server, point)]];
                 int sum = behind + line.wayOf(from, server, point);
-                if (sum < least) {
-                    least = sum;
-                    picks[t][from] = (byte) server;
+                if (sum < leastSum) {
+                    leastSum = sum;
+                    chosen = server;
                 }
             }
-            spare[from] = least;
+            return chosen;
         }
 
         void standAtStart() {
@@ -908,7 +932,7 @@ public final class ServerLine {
             if (step >= MOST_ITEMS) {
                 return;
             }
-            int server = picks[step][standing];
+            int server = chosen(step, standing, point);
             send(server, line.places[point]);
             standing = Line.moved(standing, server, point);
             step++;

@@ -17,6 +17,8 @@ public final class AskedPromisesTest {
         bestWayIsTheLeast();
         share();
         work();
+        lineChangesInBetween();
+        threeServers();
         refusals();
         badGoesAheadOfNull();
         check.end();
@@ -232,6 +234,57 @@ public final class AskedPromisesTest {
         x.servers(1);
         check.due("14: one", x.work(2, 5, 5, 2), 10 + 10 + 16);
         check.due("14: one", x.work(3, 0, 0, 0), -2);
+    }
+
+    // What was worked out for an earlier line must not be left over.
+    private static void lineChangesInBetween() {
+        ServerLine x = new ServerLine();
+        x.servers(2);
+        Check.fill(x, 0, 2, 1, 2, 0);
+        check.due("7: one point", x.asked(), 1);
+        check.due("11: one point", x.best(), 0);
+        x.points(3);
+        x.place(1, 10);
+        x.place(2, 16);
+        check.due("11: three points", x.best(), 16 + 6 + 6);
+        check.due("8: three points", x.cost(2), 16 + 6 + 6);
+        check.due("14: three points", x.work(2, 0, 0, 4), 28);
+        x.start(0, 1);
+        check.due("11: another start", x.best(), 6 + 6 + 6);
+        x.servers(3);
+        x.start(2, 2);
+        check.due("11: a server each", x.best(), 0);
+        x.place(2, 20);
+        check.due("11: still there", x.best(), 0);
+        x.servers(1);
+        check.due("11: one server", x.best(), 10 + 10 + 10 + 20);
+        x.points(2);
+        check.due("11: two points", x.best(), 0 + 10);
+    }
+
+    // Hints make server 0 pass both others; then all is drawn to where RULE 1 stands.
+    private static void threeServers() {
+        ServerLine x = Check.line(Check.row(0, 10, 30, 100), 0, 1, 2);
+        Check.fill(x, 0, 3, 0, 1);
+        Check.fill(x, 1, 0);
+        x.factor(1);
+        check.due("10: hinted", x.goes(3, 0), 0);
+        check.due("10: nearest heeds no hint", x.goes(0, 0), 2);
+        check.due("8: nearest", x.cost(0), 70);
+        check.due("10: without a hint the nearest", x.goes(3, 1), 1);
+        check.due("10: without a hint the nearest, of like ones", x.goes(3, 2), 1);
+        check.due("8: hinted", x.cost(3), 100 + 10 + 10);
+        // BOTH sends 30 to 100 and then has one at each: 70.
+        check.due("8: both", x.cost(1), 70);
+        check.due("15: at once", x.trusts(1), 1);
+        check.due("8: guarded", x.cost(4), 70);
+        x.factor(2);
+        check.due("15: not at once", x.trusts(40), 3);
+        check.due("8: guarded, whoever goes where", x.cost(4), 120);
+        check.due("14: whoever goes where", x.work(1, 2, 0, 0), 0);
+        check.due("14: whoever goes where", x.work(3, 0, 1, 0), 70);
+        check.due("14: whoever goes where", x.work(1, 3, 0, 0), 70);
+        check.due("14: whoever goes where", x.work(2, 1, 0, 1), 140);
     }
 
     private static void refusals() {
