@@ -1,18 +1,31 @@
 /** Counts the answers of one test that are not as due, and ends the test. */
 final class Check {
+    private final String prefix;
     private int asked = 0;
     private int wrong = 0;
+
+    Check() {
+        this("");
+    }
+
+    Check(String prefix) {
+        this.prefix = prefix;
+    }
 
     void due(String call, long got, long want) {
         asked++;
         if (got != want) {
             wrong++;
-            System.out.println(call + " answered " + got + ", due is " + want);
+            System.out.println(prefix + call + " answered " + got + ", due is " + want);
         }
     }
 
     boolean isClean() {
         return wrong == 0;
+    }
+
+    int askedCount() {
+        return asked;
     }
 
     void end() {
@@ -24,9 +37,13 @@ final class Check {
 
     /** Puts a new row of ints on a sheet. */
     static void fill(ServerLine x, int sheet, int... items) {
-        x.sheet(sheet, 2, items.length);
+        fillForm(x, sheet, 2, items);
+    }
+
+    static void fillForm(ServerLine x, int sheet, int form, int... items) {
+        x.sheet(sheet, form, items.length);
         for (int i = 0; i < items.length; i++) {
-            x.put(sheet, 2, i, items[i]);
+            x.put(sheet, form, i, items[i]);
         }
     }
 

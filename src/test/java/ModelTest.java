@@ -2,8 +2,10 @@ import java.util.Random;
 
 /** Long runs of mixed calls, each answer held against Model's; the seeds are fixed. */
 public final class ModelTest {
-    private static final int RUNS = 300;
-    private static final int CALLS = 300;
+    private static final int RUNS = 400;
+    /** What an object answers behind so many calls is free. */
+    private static final int MOST_CALLS = 512;
+    private static final int MOST_TURNS = 1000;
     private static final int KINDS = 26;
 
     private final Random random;
@@ -13,6 +15,7 @@ public final class ModelTest {
     /** In half of the runs places are close together, so that ways are often alike. */
     private final int farthest;
     private final String name;
+    private int made = 0;
 
     private ModelTest(Check check, int seed) {
         this.check = check;
@@ -31,11 +34,12 @@ public final class ModelTest {
 
     private void run() {
         settle();
-        for (int i = 0; i < CALLS && check.isClean(); i++) {
+        // A turn makes three calls at most, and the digest is one more.
+        for (int i = 0; i < MOST_TURNS && made < MOST_CALLS - 3 && check.isClean(); i++) {
             callOne(random.nextInt(KINDS + 8));
-            check.due(name + "count(3)", x.count(3), model.count(3));
+            due("count(3)", x.count(3), model.count(3));
         }
-        check.due(name + "digest()", x.digest(), model.digest());
+        due("digest()", x.digest(), model.digest());
     }
 
     /** Begins with a whole line and filled sheets, as single calls would seldom come so far. */
@@ -58,6 +62,7 @@ public final class ModelTest {
     }
 
     private void due(String call, long got, long want) {
+        made++;
         check.due(name + call, got, want);
     }
 
